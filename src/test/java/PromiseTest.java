@@ -384,6 +384,12 @@ public final class PromiseTest {
         dueLanes(board(11, 99, 20, 30, 10, 20, 30, 10, 20, 10, 99, 20), 1, 0, 0, 0);
         dueLanes(board(12, 99, 20, 30, 10, 20, 30, 10, 20, 30, 10, 20, 10, 99, 20), 2, 1, 0, 0, 0);
         dueLanes(board(10, 99, 20, 30, 10, 20, 30, 10, 20, 30, 10, 20, 12, 99, 20), 0, 0, 0, 1, 2);
+        // the greatest pace goes along like any other
+        LapBoard fast = board(0, 99, 1, 0, 99, 1, 0, 99, 1);
+        fast.set(2, 60);
+        dueLanes(fast, 0, 0, 0);
+        due(99000 / 60 * 3, () -> fast.on(0, 0));
+        due(0, () -> fast.worth(0, 5));
         // one unit of LENGTH at 60: the cut makes paces alike, and the lesser LANE is taken
         LapBoard z = board(12, 1, 60, 12, 1, 60);
         z.set(2, 60);
@@ -561,6 +567,8 @@ public final class PromiseTest {
         promise = "20 lost";
         LapBoard x = board(30, 20, 20, 30, 40, 20, 30, 60, 20, 30, 20, 20);
         due(-2, () -> x.lost());
+        x.drive(3, 1);
+        due(3, () -> x.lost());
         x.drive(3, 10);
         due(3, () -> x.lost());
         x.drive(1, 1005);
@@ -680,6 +688,13 @@ public final class PromiseTest {
         duePlan(x, 3, new int[][] {{0, 0, 0}, {0, 1, 0}, {1, 1, 0}});
         x.two(false);
         duePlan(x, 3, new int[][] {{0, 0, 0}, {0, 1, 0}, {0, 1, 0}});
+        // once two kinds have been on, the second may come again and again
+        LapBoard z = racer();
+        z.tyre(0, -5, 1);
+        z.tyre(1, 0, 1);
+        z.set(3, 10);
+        duePlan(z, 3, new int[][] {{0, 0, 0}, {1, 1, 0}, {1, 1, 0}});
+        duePlan(z, 4, new int[][] {{0, 0, 0}, {1, 1, 0}, {1, 1, 0}, {1, 1, 0}});
         // of several: going on as long as it may, then the lesser kind
         LapBoard y = board(0, 60, 30);
         y.set(3, 0);
