@@ -449,7 +449,6 @@ public final class LapBoard {
             length = other.length;
             base = other.base;
             line = other.line;
-            told = other.told;
         }
 
         /** BENDS and those under them. */

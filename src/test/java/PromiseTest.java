@@ -1,42 +1,5 @@
 /** For each promise of the document: ordinary inputs, the edges that it names, and wrong inputs. */
-public final class PromiseTest {
-    private static int wrong = 0;
-    private static String promise = "";
-
-    private interface Call {
-        long answer();
-    }
-
-    private static void due(long want, Call call) {
-        String got;
-        try {
-            got = "" + call.answer();
-        } catch (RuntimeException e) {
-            got = e.getClass().getSimpleName();
-        }
-        if (!got.equals("" + want)) {
-            tell(got, "" + want);
-        }
-    }
-
-    private static void dueThrown(Class<? extends RuntimeException> want, Call call) {
-        String got;
-        try {
-            got = "" + call.answer();
-        } catch (RuntimeException e) {
-            got = e.getClass().getSimpleName();
-        }
-        if (!got.equals(want.getSimpleName())) {
-            tell(got, want.getSimpleName());
-        }
-    }
-
-    private static void tell(String got, String want) {
-        wrong++;
-        StackTraceElement at = new Throwable().getStackTrace()[2];
-        System.out.println(promise + " (line " + at.getLineNumber() + "): answered " + got + ", due is " + want);
-    }
-
+public final class PromiseTest extends Answers {
     public static void main(String[] args) {
         newObject();
         station();
@@ -73,23 +36,11 @@ public final class PromiseTest {
         weight();
         toss();
         refusedCallsChangeNothing();
-        System.out.println(wrong == 0 ? "PromiseTest: all answers are as due" : "PromiseTest: " + wrong + " wrong");
-        if (wrong != 0) {
-            System.exit(1);
-        }
-    }
-
-    /** A board with STATIONS told as (told, length, base) one after another. */
-    private static LapBoard board(int... told) {
-        LapBoard x = new LapBoard();
-        for (int i = 0; i + 2 < told.length; i += 3) {
-            x.station(told[i], told[i + 1], told[i + 2]);
-        }
-        return x;
+        end("PromiseTest", "all answers are as due");
     }
 
     private static void newObject() {
-        promise = "1 a new object";
+        words = "1 a new object";
         LapBoard x = new LapBoard();
         due(0, () -> x.count(0));
         due(0, () -> x.count(1));
@@ -116,7 +67,7 @@ public final class PromiseTest {
     }
 
     private static void station() {
-        promise = "2 station";
+        words = "2 station";
         LapBoard x = new LapBoard();
         int[] good = {0, 1, 2, 10, 11, 12, 20, 21, 22, 30, 31, 32};
         for (int i = 0; i < good.length; i++) {
@@ -149,7 +100,7 @@ public final class PromiseTest {
     }
 
     private static void undo() {
-        promise = "3 undo";
+        words = "3 undo";
         LapBoard x = board(0, 50, 10, 10, 20, 15, 30, 7, 7);
         x.drive(2, 99);
         x.drive(1, 98);
@@ -168,7 +119,7 @@ public final class PromiseTest {
     }
 
     private static void base() {
-        promise = "4 base";
+        words = "4 base";
         LapBoard x = board(10, 50, 10, 30, 20, 15);
         due(10, () -> x.base(0, 60));
         due(60, () -> x.limit(0, 0));
@@ -184,7 +135,7 @@ public final class PromiseTest {
     }
 
     private static void gear() {
-        promise = "5 gear";
+        words = "5 gear";
         LapBoard x = new LapBoard();
         for (int g = 1; g <= 6; g++) {
             int gear = g;
@@ -206,7 +157,7 @@ public final class PromiseTest {
     }
 
     private static void set() {
-        promise = "6 set";
+        words = "6 set";
         LapBoard x = new LapBoard();
         due(0, () -> x.set(0, -20));
         due(-20, () -> x.set(0, 20));
@@ -229,7 +180,7 @@ public final class PromiseTest {
     }
 
     private static void limit() {
-        promise = "7 limit";
+        words = "7 limit";
         LapBoard x = board(2, 5, 7, 10, 5, 20, 21, 5, 20, 32, 5, 20);
         int[][] want = {{60, 60, 60}, {20, 17, 14}, {13, 16, 13}, {20, 20, 20}};
         dueLimits(x, want);
@@ -264,7 +215,7 @@ public final class PromiseTest {
     }
 
     private static void reach() {
-        promise = "8 reach";
+        words = "8 reach";
         LapBoard x = new LapBoard();
         int[][] want = {{1, 8}, {3, 10}, {4, 10}, {5, 11}, {10, 16}, {20, 25}, {29, 33}, {30, 34}, {50, 52}, {58, 60}, {59, 60}, {60, 60}};
         for (int[] w : want) {
@@ -286,7 +237,7 @@ public final class PromiseTest {
     }
 
     private static void shift() {
-        promise = "9 shift";
+        words = "9 shift";
         LapBoard x = new LapBoard();
         int[][] want = {{1, 1}, {4, 1}, {5, 2}, {10, 2}, {20, 3}, {59, 6}, {60, 0}};
         for (int[] w : want) {
@@ -307,7 +258,7 @@ public final class PromiseTest {
     }
 
     private static void quickest() {
-        promise = "10 quickest";
+        words = "10 quickest";
         LapBoard x = board(0, 50, 10, 10, 20, 15, 0, 60, 10, 30, 10, 12, 0, 10, 1);
         // START 20; LIMIT 15 of the bend; 15 + 6 next, but braking for 12: 18; the crest; 12 + 6 on
         int[] want = {20, 15, 18, 12, 18};
@@ -335,7 +286,7 @@ public final class PromiseTest {
     }
 
     private static void along() {
-        promise = "11 along";
+        words = "11 along";
         LapBoard x = board(0, 50, 10, 10, 20, 15);
         due(2500 + 1333, () -> x.along(0));
         due(2777 + 1666, () -> x.along(1));
@@ -347,7 +298,7 @@ public final class PromiseTest {
     }
 
     private static void best() {
-        promise = "12 best";
+        words = "12 best";
         LapBoard x = board(0, 50, 10, 10, 20, 15, 12, 80, 15, 2, 8, 1);
         // LANE 1 is for LANE 2 then: the change costs 2 of LENGTH, and the long bend is 3 quicker there
         int[][] want = {{1, 18, 2777}, {1, 12, 1666}, {2, 15, 5466}, {2, 20, 400}};
@@ -376,7 +327,7 @@ public final class PromiseTest {
     }
 
     private static void bestOfSeveral() {
-        promise = "12 best, of several";
+        words = "12 best, of several";
         // all LANES are alike on STRAIGHTS: the least
         dueLanes(board(2, 10, 1, 1, 10, 1, 2, 10, 1), 0, 0, 0);
         // a change from LANE 0 to 1 costs the same anywhere: as late as can be; from 1 to 0: as early
@@ -407,15 +358,8 @@ public final class PromiseTest {
         due(59, () -> w.best(0, 1) + w.best(0, 0));
     }
 
-    private static void dueLanes(LapBoard x, int... lanes) {
-        for (int i = 0; i < lanes.length; i++) {
-            int station = i;
-            due(lanes[i], () -> x.best(station, 0));
-        }
-    }
-
     private static void lap() {
-        promise = "13 lap";
+        words = "13 lap";
         LapBoard x = board(0, 50, 10, 10, 20, 15, 12, 80, 15, 2, 8, 1);
         due(2777 + 1666 + 5466 + 400, () -> x.lap());
         due(0, () -> new LapBoard().lap());
@@ -434,7 +378,7 @@ public final class PromiseTest {
     }
 
     private static void worth() {
-        promise = "14 worth";
+        words = "14 worth";
         LapBoard x = board(10, 90, 15, 30, 99, 1);
         due(90000 / 7 + 99000, () -> x.lap());
         due(90000 / 7 - 90000 / 11, () -> x.worth(1, 10));
@@ -456,7 +400,7 @@ public final class PromiseTest {
     }
 
     private static void wants() {
-        promise = "15 wants";
+        words = "15 wants";
         due(-2, () -> new LapBoard().wants());
         due(-2, () -> board(0, 50, 10).wants());
         due(-2, () -> board(30, 50, 60).wants());
@@ -488,7 +432,7 @@ public final class PromiseTest {
     }
 
     private static void spend() {
-        promise = "16 spend";
+        words = "16 spend";
         LapBoard x = spender();
         due(1950, () -> x.best(0, 2));
         int[][] want = {{0, 0}, {1, 0}, {2, 95}, {3, 95}, {4, 195}, {5, 245}, {6, 290}, {7, 340}, {8, 340}, {9, 440}, {10, 440}, {11, 535}, {60, 535}};
@@ -506,7 +450,7 @@ public final class PromiseTest {
     }
 
     private static void where() {
-        promise = "17 where";
+        words = "17 where";
         LapBoard x = spender();
         int[][] want = {{0, 0}, {1, 0}, {2, 2}, {4, 1}, {5, 4}, {6, 3}, {7, 6}, {8, 6}, {9, 5}, {10, 5}, {11, 7}, {60, 7}};
         for (int[] w : want) {
@@ -529,7 +473,7 @@ public final class PromiseTest {
     }
 
     private static void drive() {
-        promise = "18 drive";
+        words = "18 drive";
         LapBoard x = board(0, 10, 10, 0, 10, 10);
         due(0, () -> x.drive(0, 1));
         due(1, () -> x.drive(0, 200000));
@@ -544,7 +488,7 @@ public final class PromiseTest {
     }
 
     private static void delta() {
-        promise = "19 delta";
+        words = "19 delta";
         LapBoard x = board(0, 20, 10, 0, 26, 10);
         due(0, () -> x.delta(0));
         x.drive(0, 1500);
@@ -564,7 +508,7 @@ public final class PromiseTest {
     }
 
     private static void lost() {
-        promise = "20 lost";
+        words = "20 lost";
         LapBoard x = board(30, 20, 20, 30, 40, 20, 30, 60, 20, 30, 20, 20);
         due(-2, () -> x.lost());
         x.drive(3, 1);
@@ -587,7 +531,7 @@ public final class PromiseTest {
     }
 
     private static void tyre() {
-        promise = "21 tyre";
+        words = "21 tyre";
         LapBoard x = new LapBoard();
         for (int t = 0; t < 4; t++) {
             int tyre = t;
@@ -606,7 +550,7 @@ public final class PromiseTest {
     }
 
     private static void two() {
-        promise = "22 two";
+        words = "22 two";
         LapBoard x = new LapBoard();
         due(1, () -> x.two(true) ? 1 : 0);
         due(1, () -> x.two(false) ? 1 : 0);
@@ -618,7 +562,7 @@ public final class PromiseTest {
     }
 
     private static void on() {
-        promise = "23 on";
+        words = "23 on";
         LapBoard x = board(10, 60, 30);
         x.set(2, 60);
         due(2000, () -> x.on(0, 0));
@@ -657,7 +601,7 @@ public final class PromiseTest {
     }
 
     private static void race() {
-        promise = "24 race";
+        words = "24 race";
         LapBoard x = racer();
         due(2000, () -> x.race(1));
         due(2000 + 20000 + 2400, () -> x.race(2));
@@ -680,7 +624,7 @@ public final class PromiseTest {
     }
 
     private static void plan() {
-        promise = "25 plan";
+        words = "25 plan";
         LapBoard x = racer();
         duePlan(x, 1, new int[][] {{0, 0, 0}});
         duePlan(x, 3, new int[][] {{0, 0, 0}, {0, 0, 1}, {1, 1, 0}});
@@ -710,18 +654,8 @@ public final class PromiseTest {
         due(39, () -> y.plan(40, 39, 2));
     }
 
-    private static void duePlan(LapBoard x, int laps, int[][] want) {
-        for (int i = 0; i < want.length; i++) {
-            for (int what = 0; what < 3; what++) {
-                int lap = i;
-                int of = what;
-                due(want[i][what], () -> x.plan(laps, lap, of));
-            }
-        }
-    }
-
     private static void stops() {
-        promise = "26 stops";
+        words = "26 stops";
         LapBoard x = racer();
         due(0, () -> x.stops(1));
         due(1, () -> x.stops(2));
@@ -736,7 +670,7 @@ public final class PromiseTest {
     }
 
     private static void count() {
-        promise = "27 count";
+        words = "27 count";
         LapBoard x = board(10, 20, 30, 0, 30, 30, 12, 99, 30);
         due(3, () -> x.count(0));
         due(149, () -> x.count(1));
@@ -757,7 +691,7 @@ public final class PromiseTest {
     }
 
     private static void keep() {
-        promise = "28 keep";
+        words = "28 keep";
         LapBoard x = board(10, 20, 15, 12, 30, 15);
         due(0, () -> x.keep(0, 1, 1));
         due(155, () -> x.weight(0));
@@ -795,7 +729,7 @@ public final class PromiseTest {
     }
 
     private static void make() {
-        promise = "29 make";
+        words = "29 make";
         LapBoard x = board(10, 20, 15, 12, 30, 15);
         x.keep(0, 3, 0);
         due(0, () -> x.make(0, 3, 60));
@@ -817,7 +751,7 @@ public final class PromiseTest {
     }
 
     private static void element() {
-        promise = "30 element";
+        words = "30 element";
         LapBoard x = board(30, 20, 15, 30, 30, 12);
         x.keep(0, 3, 0);
         x.keep(1, 4, 0);
@@ -848,7 +782,7 @@ public final class PromiseTest {
     }
 
     private static void copy() {
-        promise = "31 copy";
+        words = "31 copy";
         LapBoard x = copier();
         due(2, () -> x.copy(0, 1, 3, 3, 2));
         dueRow(x, 3, 0, 0, 0, 16, 21);
@@ -885,16 +819,8 @@ public final class PromiseTest {
         dueRow(x, 0, 10, 10, 16);
     }
 
-    private static void dueRow(LapBoard x, int d, int... want) {
-        for (int i = 0; i < want.length; i++) {
-            int place = i;
-            due(want[i], () -> x.element(d, place));
-        }
-        dueThrown(IllegalStateException.class, () -> x.element(d, want.length));
-    }
-
     private static void weight() {
-        promise = "32 weight";
+        words = "32 weight";
         LapBoard x = copier();
         int[][] want = {{0, 30, 9, 40}, {2, 30, 9, 40}, {12, 30, 9, 149}, {10, 99, 60, 269}, {20, 30, 9, 298},
             {22, 1, 1, 224}, {30, 30, 9, 40}, {31, 30, 9, 41}, {32, 99, 60, 111}};
@@ -911,7 +837,7 @@ public final class PromiseTest {
     }
 
     private static void toss() {
-        promise = "33 toss";
+        words = "33 toss";
         LapBoard x = copier();
         int[][] want = {{0, -15}, {2, -15}, {10, 0}, {11, 1}, {12, 2}, {20, 0}, {21, 1}, {22, 2}, {30, -15}, {32, -15}};
         for (int[] w : want) {
@@ -928,7 +854,7 @@ public final class PromiseTest {
     }
 
     private static void refusedCallsChangeNothing() {
-        promise = "a refused call changes nothing";
+        words = "a refused call changes nothing";
         LapBoard x = copier();
         x.drive(1, 500);
         long lap = x.lap();
