@@ -268,6 +268,22 @@ public final class WaysEdgesTest extends Answers {
         due(60, () -> x.best(0, 1));
     }
 
+    @Says("Terms: THE BEST WAY: (the greatest paces, at the STATION before or on a track before, are no matter).")
+    static void pacesThatAreNotOnTheWayAreNoMatter() {
+        // at 60 LANE 0 would be the quicker one at the last STATION; from 30 on REACH holds all LANES at 34
+        LapBoard x = begun(60, 30, board(0, 1, 1, 11, 99, 30, 10, 99, 60));
+        dueLanes(x, 1, 1, 1);
+        due(16 + 3300 + 99000 / 34, () -> x.lap());
+        // the same of a track that stood before, where 60 was driven
+        LapBoard y = begun(60, 6, board(0, 1, 1));
+        due(16, () -> y.lap());
+        y.undo();
+        y.station(11, 99, 4);
+        y.station(10, 99, 60);
+        dueLanes(y, 1, 1);
+        due(24750 + 9900, () -> y.lap());
+    }
+
     @Says("Promise 12: its LANE (what = 0), pace (1), TIME (2) at a STATION. -1 (of no such).")
     static void bestOfNoSuch() {
         LapBoard x = board(0, 10, 10);
