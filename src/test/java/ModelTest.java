@@ -2,26 +2,34 @@ import java.util.ArrayList;
 import java.util.Arrays;
 import java.util.List;
 import java.util.Random;
+import java.util.concurrent.atomic.AtomicInteger;
+import java.util.stream.IntStream;
 
 /** Random runs of calls, each answer held beside that of a slow model that follows the document's words. */
 public final class ModelTest {
-    private static int wrong = 0;
+    private static final AtomicInteger WRONG = new AtomicInteger();
     private static final long IAE = Long.MIN_VALUE + 1;
     private static final long ISE = Long.MIN_VALUE + 2;
 
     public static void main(String[] args) {
-        for (int seed = 0; seed < 500; seed++) {
-            run(seed, 150, 4, 5);
-        }
-        for (int seed = 500; seed < 540; seed++) {
-            run(seed, 250, 9, 40);
-        }
-        for (int seed = 540; seed < 552; seed++) {
-            run(seed, 512, 30, 40);
-        }
+        // each run has a board of its own, so that they may go side by side
+        IntStream.range(0, 552).parallel().forEach(ModelTest::runSeed);
+        int wrong = WRONG.get();
         System.out.println(wrong == 0 ? "ModelTest: all answers are as the model's" : "ModelTest: " + wrong + " wrong");
         if (wrong != 0) {
             System.exit(1);
+        }
+    }
+
+    /** The dear runs, of large tracks and long races, stand far apart in the order. */
+    private static void runSeed(int order) {
+        int seed = order % 46 == 0 ? 540 + order / 46 : order - order / 46 - 1;
+        if (seed < 500) {
+            run(seed, 150, 4, 5);
+        } else if (seed < 540) {
+            run(seed, 250, 9, 40);
+        } else {
+            run(seed, 512, 30, 40);
         }
     }
 
@@ -46,7 +54,7 @@ public final class ModelTest {
             long got = call(board, which, a);
             told.add(which + Arrays.toString(a) + " -> " + got);
             if (due != got) {
-                wrong++;
+                WRONG.incrementAndGet();
                 System.out.println("seed " + seed + ", call " + i + ": " + NAMES[which] + Arrays.toString(a)
                         + " answered " + got + ", due is " + due);
                 return;
