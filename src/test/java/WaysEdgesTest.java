@@ -284,6 +284,45 @@ public final class WaysEdgesTest extends Answers {
         due(24750 + 9900, () -> y.lap());
     }
 
+    @Says("Terms: at STATION 0 no more than START (above it a lesser LANE would take just as long).")
+    static void aLesserLaneAboveStartIsNone() {
+        // by 16 on LANE 0, then over to LANE 1, this would take 1500 and 3000
+        LapBoard x = begun(12, 30, board(0, 24, 1, 11, 10, 4));
+        due(2000 + 2500, () -> x.lap());
+        dueLanes(x, 1, 1);
+    }
+
+    @Says("Terms: no less than that before less BRAKE (below it a lesser LANE would take just as long).")
+    static void aLesserLaneThatCanNotBeBrakedForIsNone() {
+        // by 10 and 3 LANES 0, 0 would take 9900 and 666 too
+        LapBoard x = begun(20, 4, board(10, 99, 10, 11, 2, 6));
+        due(9900 + 666, () -> x.lap());
+        dueLanes(x, 0, 1);
+        due(10, () -> x.best(0, 1));
+        due(6, () -> x.best(1, 1));
+        x.set(1, 7);
+        dueLanes(x, 0, 0);
+        due(3, () -> x.best(1, 1));
+    }
+
+    @Says("Terms: no more than REACH of that before (above it a lesser LANE would take just as long).")
+    static void aLesserLaneOutOfReachIsNone() {
+        // REACH of 10 is 16; over to LANE 0 by 20 this would take 9900 and 500 too
+        LapBoard x = board(11, 99, 10, 0, 8, 1);
+        due(9900 + 500, () -> x.lap());
+        dueLanes(x, 1, 1);
+        due(16, () -> x.best(1, 1));
+    }
+
+    @Says("Terms: at no STATION above its LIMIT there (above it a lesser LANE would take just as long).")
+    static void aLesserLaneAboveItsLimitIsNone() {
+        // LANE 0 allows 3 at STATION 1; by 8 it would take 1000 too
+        LapBoard x = begun(20, 30, board(11, 99, 10, 11, 6, 6));
+        due(9900 + 1000, () -> x.lap());
+        dueLanes(x, 1, 1);
+        due(6, () -> x.best(1, 1));
+    }
+
     @Says("Promise 12: its LANE (what = 0), pace (1), TIME (2) at a STATION. -1 (of no such).")
     static void bestOfNoSuch() {
         LapBoard x = board(0, 10, 10);
